@@ -142,6 +142,11 @@ public final class EntriesTest {
         check.badState("late, and the last move carries it 5 deep", () -> both.put(7, 6, 0, 55));
         check.badState("late, before all", () -> both.put(8, 5, 0, 0));
         check.same("late, no deeper than the others", both.put(8, 3, 0, 0), 6);
+        HangarBook up = chain();
+        for (int t = 0; t < 4; t++) {
+            up.put(t, t + 1, 0, t);
+        }
+        check.badState("the lowest one would lie 5 deep", () -> up.put(4, 5, 0, 10));
     }
 
     private static void putLate() {

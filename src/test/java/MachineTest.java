@@ -11,6 +11,7 @@ public final class MachineTest {
     public static void main(String[] args) {
         open();
         grounded();
+        groundedByItsOwnPlacesAlone();
         groundedByOrders();
         forecast();
         forecastOrder();
@@ -48,6 +49,10 @@ public final class MachineTest {
         }
         check.same("the day before", x.open(1, 0, 0), NONE);
         check.same("another machine", x.open(0, 1, 0), NONE);
+        x.flight(0, 10, 11, 1);
+        check.same("the first thing", x.open(0, 0, 0), 0 * 16 + 4);
+        check.same("its next task", x.open(0, 0, 1), 0 * 16 + 15);
+        check.same("what hangs in it", x.open(0, 0, 2), 2 * 16 + 7);
         x.take(3, 150);
         check.same("taken out at the end of the day", x.open(1, 1, 2), NONE);
         check.same("in it the others are", x.open(1, 1, 1), 1 * 16 + 15);
@@ -98,6 +103,22 @@ public final class MachineTest {
         for (int bad : NO_DAYS) {
             check.same("grounded(day " + bad + ")", x.grounded(0, bad), NONE);
         }
+    }
+
+    private static void groundedByItsOwnPlacesAlone() {
+        HangarBook x = new HangarBook();
+        x.place(0, 3, 2);
+        x.place(1, 0, 2);
+        x.thing(0, 0, 0, 0, 0);
+        x.thing(1, 1, 0, 0, 0);
+        x.thing(2, 2, 0, 0, 0);
+        check.same("its last place is empty", x.grounded(0, 0), 1);
+        x.put(2, 0, 3, 0);
+        check.same("its last place is full", x.grounded(0, 0), 0);
+        check.same("the next machine's is empty", x.grounded(1, 0), 1);
+        HangarBook last = new HangarBook();
+        last.thing(39, 11, 0, 0, 0);
+        check.same("the last thing of the last kind", last.grounded(39, 0), 0);
     }
 
     private static void groundedByOrders() {

@@ -236,6 +236,12 @@ public final class StandingTest {
         check.same("a doing of another task is nothing to it", x.due(0, 0, 0, 6), 150);
         x.strike(1);
         check.same("without it", x.due(0, 0, 0, 6), 100);
+        x.thing(38, 0, 0, 0, 0);
+        x.task(15, 0, 100, 10, 20_000);
+        x.concede(38, 15, 700, 5, 2 * 10_001 + 1);
+        check.same("the last task's minutes", x.due(38, 15, 0, 7), 105);
+        check.same("the last task's cycles", x.due(38, 15, 1, 7), 12);
+        check.same("the last task's days", x.due(38, 15, 2, 7), 21);
     }
 
     private static void dueAtTheSamePoint() {
