@@ -1,11 +1,9 @@
 /** Promises 7 to 13: flight, put, take, done, concede, rebuild and strike. */
 public final class EntriesTest {
     private static final int NONE = HangarBook.NONE;
-    private static final int LOW = Integer.MIN_VALUE;
-    private static final int HIGH = Integer.MAX_VALUE;
+    private static final int LOW = Wrong.LOW;
+    private static final int HIGH = Wrong.HIGH;
     private static final int LAST_POINT = 3_000_099;
-    private static final int[] NO_THINGS = {NONE, 9, 40, LOW, HIGH};
-    private static final int[] NO_POINTS = {-1, LAST_POINT + 1, LOW, HIGH};
 
     private static final Check check = new Check();
 
@@ -44,11 +42,11 @@ public final class EntriesTest {
     private static void flight() {
         check.promise("promise 7");
         HangarBook x = fleet();
-        for (int bad : NO_THINGS) {
+        for (int bad : Wrong.THINGS) {
             check.badArgument("flight(machine " + bad + ")", () -> x.flight(bad, 0, 1, 1));
         }
         check.badArgument("flight of a part", () -> x.flight(2, 0, 1, 1));
-        for (int bad : NO_POINTS) {
+        for (int bad : Wrong.POINTS) {
             check.badArgument("flight(point " + bad + ")", () -> x.flight(0, bad, 1, 1));
         }
         for (int bad : new int[] {-1, 100_001, LOW, HIGH}) {
@@ -68,14 +66,14 @@ public final class EntriesTest {
     private static void put() {
         check.promise("promise 8");
         HangarBook x = fleet();
-        for (int bad : NO_THINGS) {
+        for (int bad : Wrong.THINGS) {
             check.badArgument("put(t " + bad + ")", () -> x.put(bad, 0, 0, 0));
             check.badArgument("put(parent " + bad + ")", () -> x.put(2, bad, 0, 0));
         }
-        for (int bad : new int[] {-1, 4, LOW, HIGH}) {
+        for (int bad : Wrong.PLACES) {
             check.badArgument("put(p " + bad + ")", () -> x.put(2, 0, bad, 0));
         }
-        for (int bad : NO_POINTS) {
+        for (int bad : Wrong.POINTS) {
             check.badArgument("put(point " + bad + ")", () -> x.put(2, 0, 0, bad));
         }
         check.same("nothing came of it", x.count(0), 0);
@@ -167,10 +165,10 @@ public final class EntriesTest {
     private static void take() {
         check.promise("promise 9");
         HangarBook x = fleet();
-        for (int bad : NO_THINGS) {
+        for (int bad : Wrong.THINGS) {
             check.badArgument("take(t " + bad + ")", () -> x.take(bad, 0));
         }
-        for (int bad : NO_POINTS) {
+        for (int bad : Wrong.POINTS) {
             check.badArgument("take(point " + bad + ")", () -> x.take(2, bad));
         }
         check.badState("what hangs nowhere", () -> x.take(2, 0));
@@ -205,13 +203,13 @@ public final class EntriesTest {
     private static void done() {
         check.promise("promise 10");
         HangarBook x = fleet();
-        for (int bad : NO_THINGS) {
+        for (int bad : Wrong.THINGS) {
             check.badArgument("done(t " + bad + ")", () -> x.done(bad, 0, 0));
         }
         for (int bad : new int[] {NONE, 1, 16, LOW, HIGH}) {
             check.badArgument("done(task " + bad + ")", () -> x.done(0, bad, 0));
         }
-        for (int bad : NO_POINTS) {
+        for (int bad : Wrong.POINTS) {
             check.badArgument("done(point " + bad + ")", () -> x.done(0, 0, bad));
         }
         check.same("nothing came of it", x.count(0), 0);
@@ -227,13 +225,13 @@ public final class EntriesTest {
     private static void concede() {
         check.promise("promise 11");
         HangarBook x = fleet();
-        for (int bad : NO_THINGS) {
+        for (int bad : Wrong.THINGS) {
             check.badArgument("concede(t " + bad + ")", () -> x.concede(bad, 0, 0, 1, 1));
         }
         for (int bad : new int[] {NONE, 1, 16, LOW, HIGH}) {
             check.badArgument("concede(task " + bad + ")", () -> x.concede(0, bad, 0, 1, 1));
         }
-        for (int bad : NO_POINTS) {
+        for (int bad : Wrong.POINTS) {
             check.badArgument("concede(point " + bad + ")", () -> x.concede(0, 0, bad, 1, 1));
         }
         for (int bad : new int[] {-1, 10_001, LOW, HIGH}) {
@@ -257,13 +255,13 @@ public final class EntriesTest {
     private static void rebuild() {
         check.promise("promise 12");
         HangarBook x = fleet();
-        for (int bad : NO_THINGS) {
+        for (int bad : Wrong.THINGS) {
             check.badArgument("rebuild(t " + bad + ")", () -> x.rebuild(bad, 0, 0));
         }
         for (int bad : new int[] {NONE, 1, 8, LOW, HIGH}) {
             check.badArgument("rebuild(order " + bad + ")", () -> x.rebuild(0, bad, 0));
         }
-        for (int bad : NO_POINTS) {
+        for (int bad : Wrong.POINTS) {
             check.badArgument("rebuild(point " + bad + ")", () -> x.rebuild(0, 0, bad));
         }
         check.same("nothing came of it", x.count(0), 0);

@@ -1,10 +1,9 @@
 /** Promises 20 to 22: open, grounded and forecast. */
 public final class MachineTest {
     private static final int NONE = HangarBook.NONE;
-    private static final int LOW = Integer.MIN_VALUE;
-    private static final int HIGH = Integer.MAX_VALUE;
+    private static final int LOW = Wrong.LOW;
+    private static final int HIGH = Wrong.HIGH;
     private static final int[] NO_MACHINES = {NONE, 9, 40, 2, LOW, HIGH};
-    private static final int[] NO_DAYS = {-1, 30_001, LOW, HIGH};
 
     private static final Check check = new Check();
 
@@ -64,7 +63,7 @@ public final class MachineTest {
             check.same("open(machine " + bad + ")", x.open(bad, 1, 0), NONE);
         }
         check.same("a part that hangs nowhere", x.open(3, 1, 0), NONE);
-        for (int bad : NO_DAYS) {
+        for (int bad : Wrong.DAYS) {
             check.same("open(day " + bad + ")", x.open(1, bad, 0), NONE);
         }
         for (int bad : new int[] {-1, LOW, HIGH}) {
@@ -100,7 +99,7 @@ public final class MachineTest {
         for (int bad : NO_MACHINES) {
             check.same("grounded(machine " + bad + ")", x.grounded(bad, 5), NONE);
         }
-        for (int bad : NO_DAYS) {
+        for (int bad : Wrong.DAYS) {
             check.same("grounded(day " + bad + ")", x.grounded(0, bad), NONE);
         }
     }
@@ -178,7 +177,7 @@ public final class MachineTest {
         for (int bad : NO_MACHINES) {
             check.same("forecast(machine " + bad + ")", x.forecast(bad, 5, 0, 0, 0), NONE);
         }
-        for (int bad : NO_DAYS) {
+        for (int bad : Wrong.DAYS) {
             check.same("forecast(day " + bad + ")", x.forecast(0, bad, 0, 0, 0), NONE);
         }
         for (int bad : new int[] {-1, LOW, HIGH}) {

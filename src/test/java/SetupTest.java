@@ -1,8 +1,8 @@
 /** Promises 1 to 6: a new object, place, thing, task, order and life. */
 public final class SetupTest {
     private static final int NONE = HangarBook.NONE;
-    private static final int LOW = Integer.MIN_VALUE;
-    private static final int HIGH = Integer.MAX_VALUE;
+    private static final int LOW = Wrong.LOW;
+    private static final int HIGH = Wrong.HIGH;
 
     private static final Check check = new Check();
 
@@ -45,10 +45,10 @@ public final class SetupTest {
     private static void place() {
         check.promise("promise 2");
         HangarBook x = new HangarBook();
-        for (int bad : new int[] {NONE, 12, LOW, HIGH}) {
+        for (int bad : Wrong.KINDS) {
             check.no("place(kind " + bad + ")", x.place(bad, 0, 1));
         }
-        for (int bad : new int[] {NONE, 4, LOW, HIGH}) {
+        for (int bad : Wrong.PLACES) {
             check.no("place(p " + bad + ")", x.place(0, bad, 1));
         }
         for (int bad : new int[] {-2, 12, LOW, HIGH}) {
@@ -90,14 +90,14 @@ public final class SetupTest {
         for (int bad : new int[] {NONE, 40, LOW, HIGH}) {
             check.no("thing(t " + bad + ")", x.thing(bad, 0, 0, 0, 0));
         }
-        for (int bad : new int[] {NONE, 12, LOW, HIGH}) {
+        for (int bad : Wrong.KINDS) {
             check.no("thing(kind " + bad + ")", x.thing(0, bad, 0, 0, 0));
         }
         for (int bad : new int[] {-1, 1_000_001, LOW, HIGH}) {
             check.no("thing(minutes " + bad + ")", x.thing(0, 0, bad, 0, 0));
             check.no("thing(cycles " + bad + ")", x.thing(0, 0, 0, bad, 0));
         }
-        for (int bad : new int[] {-1, 30_001, LOW, HIGH}) {
+        for (int bad : Wrong.DAYS) {
             check.no("thing(day " + bad + ")", x.thing(0, 0, 0, 0, bad));
         }
         check.same("nothing came of it", x.count(2), 0);
@@ -122,7 +122,7 @@ public final class SetupTest {
         for (int bad : new int[] {NONE, 16, LOW, HIGH}) {
             check.no("task(task " + bad + ")", x.task(bad, 0, 1, 1, 1000));
         }
-        for (int bad : new int[] {NONE, 12, LOW, HIGH}) {
+        for (int bad : Wrong.KINDS) {
             check.no("task(kind " + bad + ")", x.task(0, bad, 1, 1, 1000));
         }
         for (int bad : new int[] {-1, 100_001, LOW, HIGH}) {
@@ -168,7 +168,7 @@ public final class SetupTest {
         for (int bad : new int[] {NONE, 8, LOW, HIGH}) {
             check.no("order(order " + bad + ")", x.order(bad, 0, 39, 0, NONE));
         }
-        for (int bad : new int[] {NONE, 12, LOW, HIGH}) {
+        for (int bad : Wrong.KINDS) {
             check.no("order(kind " + bad + ")", x.order(0, bad, 39, 0, NONE));
         }
         for (int bad : new int[] {-1, 40, 39 * 40 + 38, 1600, 1639, LOW, HIGH}) {
@@ -212,7 +212,7 @@ public final class SetupTest {
     private static void life() {
         check.promise("promise 6");
         HangarBook x = new HangarBook();
-        for (int bad : new int[] {NONE, 12, LOW, HIGH}) {
+        for (int bad : Wrong.KINDS) {
             check.no("life(kind " + bad + ")", x.life(bad, 1, 1));
         }
         for (int bad : new int[] {-1, 1_000_001, LOW, HIGH}) {

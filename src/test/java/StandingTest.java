@@ -1,12 +1,9 @@
 /** Promises 14 to 19: count, where, at, counter, due and asked. */
 public final class StandingTest {
     private static final int NONE = HangarBook.NONE;
-    private static final int LOW = Integer.MIN_VALUE;
-    private static final int HIGH = Integer.MAX_VALUE;
+    private static final int LOW = Wrong.LOW;
+    private static final int HIGH = Wrong.HIGH;
     private static final int LAST_POINT = 3_000_099;
-    private static final int[] NO_THINGS = {NONE, 9, 40, LOW, HIGH};
-    private static final int[] NO_POINTS = {-1, LAST_POINT + 1, LOW, HIGH};
-    private static final int[] NO_DAYS = {-1, 30_001, LOW, HIGH};
 
     private static final Check check = new Check();
 
@@ -72,10 +69,10 @@ public final class StandingTest {
         check.same("a machine's machine", x.where(0, 200, 2), 0);
         check.same("a machine's depth", x.where(0, 200, 3), 0);
         for (int what = 0; what < 4; what++) {
-            for (int bad : NO_THINGS) {
+            for (int bad : Wrong.THINGS) {
                 check.same("where(t " + bad + ")", x.where(bad, 200, what), NONE);
             }
-            for (int bad : NO_POINTS) {
+            for (int bad : Wrong.POINTS) {
                 check.same("where(point " + bad + ")", x.where(0, bad, what), NONE);
             }
         }
@@ -98,13 +95,13 @@ public final class StandingTest {
         check.same("the other stays", x.at(0, 3, LAST_POINT), 3);
         check.same("a place for none ever", x.at(0, 1, 150), NONE);
         check.same("another machine", x.at(1, 0, 150), NONE);
-        for (int bad : NO_THINGS) {
+        for (int bad : Wrong.THINGS) {
             check.same("at(t " + bad + ")", x.at(bad, 0, 150), NONE);
         }
-        for (int bad : new int[] {-1, 4, LOW, HIGH}) {
+        for (int bad : Wrong.PLACES) {
             check.same("at(p " + bad + ")", x.at(0, bad, 150), NONE);
         }
-        for (int bad : NO_POINTS) {
+        for (int bad : Wrong.POINTS) {
             check.same("at(point " + bad + ")", x.at(0, 0, bad), NONE);
         }
     }
@@ -125,10 +122,10 @@ public final class StandingTest {
         check.same("minutes of the beginning", x.counter(5, 0, 0), 5000);
         check.same("cycles of the beginning", x.counter(5, 1, 30_000), 50);
         for (int unit = 0; unit < 3; unit++) {
-            for (int bad : NO_THINGS) {
+            for (int bad : Wrong.THINGS) {
                 check.same("counter(t " + bad + ")", x.counter(bad, unit, 6), 0);
             }
-            for (int bad : NO_DAYS) {
+            for (int bad : Wrong.DAYS) {
                 check.same("counter(day " + bad + ")", x.counter(5, unit, bad), 0);
             }
         }
@@ -169,7 +166,7 @@ public final class StandingTest {
         check.same("no limit of days", x.due(3, 0, 2, 0), NONE);
         check.same("no limit of minutes", x.due(3, 1, 0, 0), NONE);
         check.same("a thing of another kind", x.due(0, 0, 0, 0), 100);
-        for (int bad : NO_THINGS) {
+        for (int bad : Wrong.THINGS) {
             check.same("due(t " + bad + ")", x.due(bad, 0, 0, 0), NONE);
         }
         for (int bad : new int[] {NONE, 2, 16, LOW, HIGH}) {
@@ -178,7 +175,7 @@ public final class StandingTest {
         for (int bad : new int[] {-1, 3, LOW, HIGH}) {
             check.same("due(unit " + bad + ")", x.due(3, 0, bad, 0), NONE);
         }
-        for (int bad : NO_DAYS) {
+        for (int bad : Wrong.DAYS) {
             check.same("due(day " + bad + ")", x.due(3, 0, 0, bad), NONE);
         }
     }
@@ -300,13 +297,13 @@ public final class StandingTest {
             }
         }
         check.same("another kind", x.asked(0, 0, 5), 0);
-        for (int bad : NO_THINGS) {
+        for (int bad : Wrong.THINGS) {
             check.same("asked(t " + bad + ")", x.asked(bad, 0, 5), 0);
         }
         for (int bad : new int[] {NONE, 4, 16, LOW, HIGH}) {
             check.same("asked(task " + bad + ")", x.asked(2, bad, 5), 0);
         }
-        for (int bad : NO_DAYS) {
+        for (int bad : Wrong.DAYS) {
             check.same("asked(day " + bad + ")", x.asked(2, 0, bad), 0);
         }
     }
